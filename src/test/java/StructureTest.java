@@ -5,9 +5,11 @@ import com.sun.source.tree.ClassTree;
 import com.sun.source.tree.CompilationUnitTree;
 import com.sun.source.tree.DoWhileLoopTree;
 import com.sun.source.tree.ForLoopTree;
+import com.sun.source.tree.IdentifierTree;
 import com.sun.source.tree.LambdaExpressionTree;
 import com.sun.source.tree.LiteralTree;
 import com.sun.source.tree.MemberReferenceTree;
+import com.sun.source.tree.MemberSelectTree;
 import com.sun.source.tree.MethodInvocationTree;
 import com.sun.source.tree.MethodTree;
 import com.sun.source.tree.NewArrayTree;
@@ -160,6 +162,8 @@ public final class StructureTest {
             String name = owner.getQualifiedName() + "." + called.getSimpleName();
             boolean isOwn = owner.getQualifiedName().toString().startsWith("Throughcoach");
             need("4: the library", isOwn || LIBRARY.contains(name), tree);
+            need("12: a constructor calls no method of the class", !isOwn || !isInConstructor()
+                    || called.getKind() == ElementKind.CONSTRUCTOR, tree);
             if (owner.getQualifiedName().contentEquals("java.lang.Math")) {
                 need("3: no Math over floats", called.getReturnType().getKind() == TypeKind.INT, tree);
             }
@@ -178,6 +182,15 @@ public final class StructureTest {
                 calls.get(method).add(element());
             }
             return super.visitNewClass(tree, none);
+        }
+
+        @Override
+        public Void visitIdentifier(IdentifierTree tree, Void none) {
+            if (tree.getName().contentEquals("this")) {
+                need("12: an object does not hand out itself",
+                        getCurrentPath().getParentPath().getLeaf() instanceof MemberSelectTree, tree);
+            }
+            return super.visitIdentifier(tree, none);
         }
 
         @Override
